@@ -87,7 +87,7 @@ public final class JudgedRuns {
         requireQuestion(question);
         requireDocument(document);
         if (judgement != UNJUDGED && judgement != NOT_RELEVANT && judgement != RELEVANT) {
-            throw new IllegalArgumentException("judgement is not UNJUDGED, NOT_RELEVANT or RELEVANT");
+            throw new IllegalArgumentException("judgement is none of the three constants");
         }
         int[] judgements = questions[question].judgements;
         int before = judgements[document];
