@@ -11,6 +11,12 @@ final class Check {
 
     private int checks = 0;
     private int wrong = 0;
+    private String sentence = "";
+
+    /** The checks that follow look at this sentence of the document; it heads what they report. */
+    void sentence(String told) {
+        sentence = "[" + told + "] ";
+    }
 
     void due(String what, long want, long got) {
         checks++;
@@ -56,7 +62,7 @@ final class Check {
     private void report(String text) {
         wrong++;
         if (wrong <= 20) {
-            System.out.println(text);
+            System.out.println(sentence + text);
         }
     }
 
