@@ -44,6 +44,7 @@ public final class MeasureBoundariesTest {
         bestOfSeveralIsTheLowestNumber();
         bestDiffersByLittle();
         bestLooksToTheDepth();
+        bestTakesTheMeanAndNotTheSum();
         measuresChangeNothing();
         theLastOfAllCallsAnswers();
         check.end();
@@ -520,6 +521,17 @@ public final class MeasureBoundariesTest {
         check.due("best to 1", 1, bench.best(1));
         check.due("best to 2", 3, bench.best(2));
         check.due("best to 20", 3, bench.best(20));
+    }
+
+    private static void bestTakesTheMeanAndNotTheSum() {
+        check.sentence("the greatest precision: over the questions for which it has a run that is not empty");
+        JudgedRuns bench = tied(3, 0, 1, 1);
+        addTied(bench, 1, 1, 1, 1);
+        addTied(bench, 1, 2, 1, 1);
+        addTied(bench, 1, 3, 1, 0);
+        check.due("best of 2/3 by three runs and 1 by one", 3, bench.best(1));
+        bench.empty(1, 3);
+        check.due("best of 1 by two runs and 1 by one", 1, bench.best(1));
     }
 
     private static void measuresChangeNothing() {
